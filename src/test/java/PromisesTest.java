@@ -383,6 +383,10 @@ public final class PromisesTest {
         faultAt("days !(!(!(!(!(!(!(!(!1)))))))) sum i hours u", 21);
         parts("days ((((1))))+((((((((1)))))))) sum !!!!!!!!1+!!!!!!!!1 hours u", 5);
         faultAt("days 1 sum 2 hours", 18);
+        faultAt("xays g sum i hours u", 0);
+        faultAt("daxs g sum i hours u", 0);
+        faultAt("days gz sum i hours u", 5);
+        faultAt("days g sum i hourz u", 13);
     }
 
     private static void lawState() {
@@ -394,6 +398,12 @@ public final class PromisesTest {
         due("another law", law(x, "days 5 sum 5 hours 5"), 3);
         due("the tape is used up", x.count(7), 0);
         due("it is the law", x.worth(0), 5);
+        due("an open fault", law(x, "days !((1-(2*"), -113);
+        due("as if there was none", law(x, "days 50-3 sum 1 hours !1"), 4);
+        due("nothing is left of it", x.worth(0), 47);
+        feedText(x, "days 1 sum 2 hours uuuuu");
+        x.trim(20);
+        due("what was trimmed is no word's end", x.law(), 3);
     }
 
     private static void gives(String e, int want) {
@@ -414,6 +424,7 @@ public final class PromisesTest {
         gives("1<2", 1);
         gives("2<2", 0);
         gives("2>1", 1);
+        gives("2>2", 0);
         gives("2=2", 1);
         gives("2=3", 0);
         gives("5&6", 1);
@@ -564,6 +575,13 @@ public final class PromisesTest {
         due("share at most", poor.about(0, 11), 9999999);
         due("no flat", poor.about(0, 12), 0);
         due("fine", poor.about(0, 4), 999 * 9999);
+        poor.appeal(0, 0, 2);
+        poor.appeal(0, 1, 3);
+        due("earns 1 at least", poor.about(0, 11), 6000);
+        poor.rule(0, 1);
+        due("earns 1", poor.about(0, 11), 6000);
+        poor.rule(0, 2);
+        due("earns 2", poor.about(0, 11), 3000);
         DayFines free = court("days 5 sum 0 hours 1", 0);
         free.rule(6, 0);
         free.deed(0, 0, 0, 1);
@@ -593,6 +611,14 @@ public final class PromisesTest {
         due("sum up to ROOF", x.appeal(0, 1, 1000), 50);
         due("sum", x.about(0, 3), 1000);
         due("sum again", x.appeal(0, 1, 1), NO);
+        DayFines later = court("days g sum 5 hours u", 0);
+        go(later, 20);
+        later.deed(0, 0, 20, 9);
+        later.judge(0);
+        go(later, 30);
+        due("BAR days behind a later day", later.appeal(0, 0, 1), 9);
+        go(later, 1);
+        due("too late behind a later day", later.appeal(0, 1, 1), NO);
         DayFines turned = judged(20, 50);
         turned.rule(11, 0);
         turned.step(0);
@@ -627,6 +653,11 @@ public final class PromisesTest {
         x.rule(11, 0);
         for (int i = 0; i < 3; i++) x.step(0);
         due("turned", x.reopen(0), NO);
+        x.rule(7, 9999);
+        x.deed(0, 0, 401, 1);
+        x.judge(0);
+        go(x, 400);
+        due("AGAIN days behind a later day", x.reopen(1), 5000);
     }
 
     private static void pay() {
@@ -670,6 +701,23 @@ public final class PromisesTest {
         small.appeal(0, 1, 1);
         due("cut", small.back(0), 990 + 990 * 4 * 30 / 36500);
         due("paid is fine", small.about(0, 5), 10);
+        DayFines later = court("days 11 sum 1 hours u", 0);
+        go(later, 100);
+        later.rule(10, 100);
+        later.deed(0, 0, 0, 1);
+        later.judge(0);
+        later.pay(0, 11);
+        go(later, 30);
+        later.appeal(0, 0, 10);
+        due("one coin, with interest below one", later.back(0), 1);
+        DayFines grown = court("days 100 sum 100 hours u", 0);
+        go(grown, 100);
+        grown.deed(0, 0, 0, 1);
+        grown.judge(0);
+        grown.pay(0, 10000);
+        go(grown, 30);
+        grown.appeal(0, 0, 0);
+        due("interest since the judgment", grown.back(0), 10000 + 10000 * 4 * 30 / 36500);
     }
 
     private static void step() {
@@ -762,6 +810,11 @@ public final class PromisesTest {
         x.rule(11, 0);
         for (int i = 0; i < 3; i++) x.step(0);
         due("turned", x.level(0), 0);
+        DayFines coin = court("days 1 sum 1 hours u", 0);
+        coin.deed(0, 0, 0, 1);
+        coin.judge(0);
+        due("one coin", coin.level(0), 1);
+        due("one coin in one row", checked(coin, 0, 1), 0);
     }
 
     private static void levelOfSeveral() {
@@ -816,6 +869,7 @@ public final class PromisesTest {
         due("needy", x.room(0, 1), 132);
         due("needy, with debt", x.room(0, 2), 299 * 33 / 100);
         x.rule(13, 9999);
+        x.rule(14, 100);
         due("0 at least", x.room(0, 0), 0);
         x.rule(13, 0);
         x.rule(14, 100);
@@ -863,6 +917,7 @@ public final class PromisesTest {
         due("no level", checked(x, 0, 204), NO);
         x.fact(0, 3, 0, 0, 60);
         x.rule(12, 365);
+        due("the debt is gone by then", x.room(0, 2), 350);
         due("months without room are rows", checked(x, 0, 0, 0, 56, 56, 56, 56, 56, 56, 56, 56, 56, 56, 50), 0);
     }
 
@@ -982,6 +1037,11 @@ public final class PromisesTest {
         x.flat(0, 9);
         x.rule(6, 2);
         x.deed(0, 0, 0, 1);
+        x.keep();
+        x.judge(0);
+        x.again();
+        due("the deed is in none again", x.told(0, 5), NONE);
+        due("custody is back", x.count(9), 2);
         x.judge(0);
         x.pay(0, 1);
         x.deed(1, 0, 1, 1);
@@ -1037,8 +1097,10 @@ public final class PromisesTest {
         due("far below 0", x.sheet(0, LOW), SIZE);
         due("still missing", x.mark(0, 0, 0), NOTHING);
         due("24 places", x.sheet(0, 24), 24);
+        x.mark(0, 0, 4);
         x.mark(0, 3, 5);
         due("anew", x.sheet(0, 4), 4);
+        due("all 0, the first", x.mark(0, 0, 1), 0);
         due("all 0", x.mark(0, 3, 1), 0);
         due("refused", x.sheet(0, -1), SIZE);
         due("it stays", x.mark(0, 3, 1), 1);
@@ -1085,6 +1147,9 @@ public final class PromisesTest {
         due("at below 0", x.copy(0, 0, 1, -1, 1), INDEX);
         due("too many to", x.copy(0, 0, 1, 0, 4), INDEX);
         due("too many from", x.copy(1, 0, 0, 0, 4), INDEX);
+        due("too many to, from a place", x.copy(0, 0, 1, 2, 2), INDEX);
+        due("too many from a place", x.copy(0, 5, 1, 0, 2), INDEX);
+        due("too many in one", x.copy(0, 3, 0, 4, 3), INDEX);
         due("far too many", x.copy(0, 1, 1, 1, HIGH), INDEX);
         due("many below 0", x.copy(0, 1, 1, 1, -1), INDEX);
         for (int i = 0; i < 3; i++) due("nothing changed", x.mark(1, i, 0), i);
