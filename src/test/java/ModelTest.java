@@ -752,6 +752,7 @@ public final class ModelTest {
         final Model model = new Model();
         final StringBuilder log = new StringBuilder();
         final boolean rich;
+        final boolean wild;
         int calls = 0;
         boolean wrong = false;
         static final int[] ANSWERS = new int[NAMES.length];
@@ -760,9 +761,12 @@ public final class ModelTest {
         Run(long seed) {
             random = new Random(seed);
             rich = seed % 8 == 0;
+            wild = seed % 16 == 5;
         }
 
         int any(int least, int most) {
+            int[] extremes = {Integer.MIN_VALUE, Integer.MIN_VALUE + 1, Integer.MAX_VALUE, Integer.MAX_VALUE - 1, -2};
+            if (wild && random.nextInt(8) == 0) return extremes[random.nextInt(5)];
             int dice = random.nextInt(100);
             if (dice < 2) return least - 1;
             if (dice < 4) return most + 1;
