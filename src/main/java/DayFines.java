@@ -836,6 +836,7 @@ public final class DayFines {
             for (int i = begin; i < law.ends[section]; i++) {
                 int item = law.code[i];
                 if (item >= 0 || Tape.isLetter(-item)) {
+                    if (top >= MOST_BYTES - 1) return 0;
                     top++;
                     stack[top] = item >= 0 ? item : named[-item - 'a'];
                 } else if (item == -'!' && top >= 0) {

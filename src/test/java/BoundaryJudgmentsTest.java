@@ -353,6 +353,18 @@ public final class BoundaryJudgmentsTest {
         due("earns 1 at least, below", poor.about(0, FLAT_SHARE), 9999000);
     }
 
+    private static void p21_manyDeeds() {
+        sentence(21, "10 how many DEEDS");
+        for (int many : new int[] {1, 2, 29, 30}) {
+            DayFines x = Boundary.court("days 1 sum 1 hours 1", 0);
+            x.flat(1, 9999);
+            for (int i = 0; i < many; i++) x.deed(1, 0, 0, 1);
+            x.judge(0);
+            due("deeds", x.about(0, MANY), many);
+            due("share of flat ones", x.about(0, FLAT_SHARE), 9999 * many);
+        }
+    }
+
     private static void p21_due() {
         sentence(21, "each DUE TERM days behind its day");
         DayFines x = Boundary.court("days 1 sum 1 hours 1", 0);
@@ -645,6 +657,11 @@ public final class BoundaryJudgmentsTest {
                 due(behind + " behind with GAP " + gap, x.step(0), behind < gap ? NO : 1);
             }
         }
+        for (int behind = 29; behind <= 31; behind++) {
+            DayFines x = forAppeal(behind);
+            due("judged on day 7, " + behind + " behind", x.step(0), behind < 30 ? NO : 1);
+            due("judged on day 7, next at once", x.step(0), NO);
+        }
         Boundary.refused("too soon", () -> later(Boundary.judged(10, 50), 29), x -> x.step(0), NO);
         Boundary.refused("too soon behind the last", Boundary::busy, x -> x.step(0), NO);
     }
@@ -712,6 +729,15 @@ public final class BoundaryJudgmentsTest {
         due("unpaid days, a coin left", hours("u", 0, 499), 1);
         int[] young = {0, 1, 1, 0};
         for (int kind = 0; kind < 4; kind++) due("young, kind " + kind, hours("y*7", kind, 0), 7 * young[kind]);
+        DayFines both = Boundary.court("days 10 sum 50 hours u+y*7", 1, 0);
+        both.rule(GAP, 0);
+        for (int p = 0; p < 2; p++) {
+            both.deed(0, p, 0, 1);
+            both.judge(p);
+        }
+        for (int i = 0; i < 6; i++) both.step(i / 3);
+        due("of the young one", both.about(0, HOURS), 17);
+        due("of the other one", both.about(1, HOURS), 10);
         DayFines later = Boundary.judged(10, 50);
         later.rule(GAP, 0);
         later.step(0);
@@ -769,6 +795,7 @@ public final class BoundaryJudgmentsTest {
         p21_share();
         p21_shareThen();
         p21_flat();
+        p21_manyDeeds();
         p21_due();
         p22_bar();
         p22_values();

@@ -298,6 +298,27 @@ public final class BoundaryLawTest {
         due("twelve come anew", x.feed(0, 0, 0), 12);
     }
 
+    private static void p17_nothingLeft() {
+        sentence(17, "THE TAPE is THE LAW");
+        String[] open = {"days 1+1+1 sum ((((((((", "days 1+1+1 sum !!!!!!!!", "days 1+", "days (!(!(1-2*3<4", "days", "days !(1+(2"};
+        for (String text : open) {
+            DayFines x = Boundary.people(0);
+            x.deed(0, 0, 0, 1);
+            due("it ends too soon", Boundary.law(x, text), -100 - text.length());
+            due("the next one", Boundary.law(x, "days ((((((((9))))))))+1 sum !!!!!!!!5+6 hours 1"), 5);
+            due("days", x.worth(0), 10);
+            due("sum", x.sum(0, 0, 0), 7);
+            due("none ahead of it", Boundary.law(x, "1"), -100);
+        }
+        DayFines many = Boundary.people(0);
+        many.deed(0, 0, 0, 1);
+        for (int i = 1; i <= 30; i++) {
+            due("law " + i, Boundary.law(many, "days 1" + "+1".repeat(i) + " sum " + i + " hours " + i), 3 + i);
+            due("days", many.worth(0), 1 + i);
+            due("sum", many.sum(0, 0, 0), i);
+        }
+    }
+
     private static void p17_parts() {
         sentence(17, "THE TAPE is THE LAW: how many NUMBERS and NAMES it has.");
         parts("days 1 sum 1 hours 1", 3);
@@ -349,6 +370,18 @@ public final class BoundaryLawTest {
 
     private static void p17_headings() {
         sentence(17, "days E sum E hours E");
+        String[] headings = {"days", "sum", "hours"};
+        String[] texts = {"^? 1 sum 1 hours 1", "days 1 ^? 1 hours 1", "days 1 sum 1 ^? 1"};
+        for (int e = 0; e < 3; e++) {
+            for (int i = 0; i < headings[e].length(); i++) {
+                StringBuilder word = new StringBuilder(headings[e]);
+                word.setCharAt(i, 'x');
+                fault(texts[e].replace("?", word));
+            }
+            for (String other : headings) {
+                if (!other.equals(headings[e])) fault(texts[e].replace("?", other));
+            }
+        }
         fault("^day 1 sum 1 hours 1");
         fault("^dayss 1 sum 1 hours 1");
         fault("^Days 1 sum 1 hours 1");
@@ -374,6 +407,15 @@ public final class BoundaryLawTest {
     private static void p17_words() {
         sentence(17, "A word is a row of letters a .. z, or of digits, as long as it goes; any other byte is a sign by itself.");
         fault("^daysg sum 1 hours 1");
+        fault("days ^gz sum 1 hours 1");
+        fault("days ^ga sum 1 hours 1");
+        fault("days ^zg sum 1 hours 1");
+        fault("days 1^z sum 1 hours 1");
+        fault("days 1^a sum 1 hours 1");
+        fault("days g^0 sum 1 hours 1");
+        fault("days g^9 sum 1 hours 1");
+        parts("days 10 sum 19 hours 90", 3);
+        parts("days 01 sum 91 hours 09", 3);
         fault("days g^`sum 1 hours 1");
         fault("days g^{sum 1 hours 1");
         fault("days g/^sum 1 hours 1");
@@ -727,6 +769,7 @@ public final class BoundaryLawTest {
         p16_trim();
         p17_stays();
         p17_usedUp();
+        p17_nothingLeft();
         p17_parts();
         p17_digits();
         p17_names();

@@ -297,6 +297,11 @@ public final class BoundaryPeopleTest {
         due("tax of another WHAT", other.known(0, INCOME, 5, 0), 10);
         other.fact(0, INCOME, TAX, 0, 0);
         due("a tax of 0 is one", other.known(0, INCOME, 5, 0), 0);
+        DayFines first = Boundary.people(0);
+        first.fact(0, INCOME, TAX, 20, 3);
+        first.fact(0, INCOME, TOLD, 10, 3);
+        first.fact(0, INCOME, TOLD, 11, 5);
+        due("tax came first, told later", first.known(0, INCOME, 5, 0), 20);
     }
 
     private static void p7_latest() {
@@ -313,6 +318,11 @@ public final class BoundaryPeopleTest {
         x.fact(0, DEBT, TOLD, 5, 8);
         x.fact(0, DEBT, TOLD, 6, 8);
         due("of three the last", x.known(0, DEBT, 8, 0), 6);
+        DayFines first = Boundary.people(0);
+        first.fact(0, DEBT, TOLD, 1, 8);
+        first.fact(0, DEBT, TOLD, 2, 7);
+        due("the latest FROM came first", first.known(0, DEBT, 8, 0), 1);
+        due("it does not hold yet", first.known(0, DEBT, 7, 0), 2);
         x.fact(0, WEALTH, TAX, 1, 7);
         x.fact(0, WEALTH, TAX, 2, 7);
         x.fact(0, WEALTH, TOLD, 3, 7);

@@ -4,7 +4,7 @@ import java.util.function.Supplier;
 public final class BoundaryPlansTest {
     private static final int BAD = Boundary.BAD, NO = Boundary.NO, FULL = Boundary.FULL, NONE = Boundary.NONE;
     private static final int NOTHING = Boundary.NOTHING, LOW = Boundary.LOW, HIGH = Boundary.HIGH;
-    private static final int GUESS = 0, GAP = 11, TERM = 12, NEED = 13, SHARE = 14, SLACK = 15;
+    private static final int GUESS = 0, JOIN = 4, GAP = 11, TERM = 12, NEED = 13, SHARE = 14, SLACK = 15;
     private static final int INCOME = 0, NEEDY = 1, WEALTH = 2, DEBT = 3;
 
     private static void sentence(int promise, String words) {
@@ -181,6 +181,20 @@ public final class BoundaryPlansTest {
         due("level", lean.level(0), 67);
         int[] pays = {67, 10, 67, 67, 0};
         for (int m = 0; m < 5; m++) due("a lean month 1, month " + m, lean.month(0, m), pays[m]);
+        DayFines both = owing(3, 999, 60);
+        both.person(0);
+        both.rule(JOIN, 100);
+        both.deed(0, 1, 0, 1);
+        both.deed(0, 1, 0, 1);
+        both.judge(1);
+        for (int m = 0; m < 4; m++) due("what another one owes is not paid, month " + m, both.month(0, m), m < 3 ? 1 : 0);
+        int[] hers = {2, 2, 2, 0};
+        for (int m = 0; m < 4; m++) due("what the other one pays, month " + m, both.month(1, m), hers[m]);
+        both.deed(0, 0, 0, 1);
+        both.judge(0);
+        both.rule(GAP, 0);
+        for (int i = 0; i < 3; i++) both.step(2);
+        for (int m = 0; m < 4; m++) due("what is turned is not paid, month " + m, both.month(0, m), m < 3 ? 1 : 0);
         DayFines early = owing(3, 999, 690);
         int[] ones = {1, 1, 1, 0};
         for (int m = 0; m < 4; m++) due("3 with level 1, month " + m, early.month(0, m), ones[m]);
@@ -318,6 +332,11 @@ public final class BoundaryPlansTest {
         due("months without room are rows", checked(gap.get(), 0, 10, 0, 0, 10), 0);
         due("they may not be left out", checked(gap.get(), 0, 10, 10), 2);
         due("no row behind the last", checked(gap.get(), 0, 10, 0, 0, 10, 0), 5);
+        DayFines both = gap.get();
+        both.person(0);
+        due("rows of one", checked(both, 0, 10, 0, 0, 10), 0);
+        due("no row of the other one", checked(both, 1), 0);
+        due("a row of the other one is too many", checked(both, 1, 10), 1);
     }
 
     private static void p32_usedUp() {
@@ -391,6 +410,19 @@ public final class BoundaryPlansTest {
                 alike("kind " + a + " with " + b + " more", cases(0, new int[] {a, 9}, 0, new int[] {a, 5, b, 4}), 0);
             }
         }
+        int[] fifteen = new int[30];
+        for (int i = 0; i < 30; i += 2) {
+            fifteen[i] = i / 2 % 4;
+            fifteen[i + 1] = 10;
+        }
+        alike("15 deeds and 15", cases(0, fifteen, 0, fifteen), 1);
+        int[] other = fifteen.clone();
+        other[28] = 3;
+        alike("15 deeds and 15, the last of another kind", cases(0, fifteen, 0, other), 0);
+        other = fifteen.clone();
+        other[29] = 16;
+        alike("15 deeds and 15, the last of 6 more", cases(0, fifteen, 0, other), 0);
+        alike("15 deeds and 14", cases(0, fifteen, 0, java.util.Arrays.copyOf(fifteen, 28)), 0);
         alike("twice and once", cases(0, new int[] {1, 9, 1, 9, 2, 9}, 0, new int[] {1, 9, 2, 9, 2, 9}), 0);
     }
 

@@ -110,6 +110,36 @@ public final class BoundarySheetsTest {
         }, x -> Boundary.law(x, "days 33 sum 44 hours 55") + x.again());
     }
 
+    private static void p38_everyRow() {
+        sentence(38, "All is as THE IMAGE: TODAY.");
+        DayFines x = Boundary.court("days g sum 7 hours 1", 0, 0);
+        x.deed(0, 0, 0, 11);
+        x.deed(0, 1, 0, 12);
+        x.keep();
+        x.judge(0);
+        x.judge(1);
+        x.again();
+        due("the first deed is in none", x.told(0, 5), NONE);
+        due("the last deed is in none", x.told(1, 5), NONE);
+        due("deeds that are in none", x.count(5), 2);
+        x.judge(0);
+        x.judge(1);
+        x.keep();
+        for (int j = 0; j < 2; j++) {
+            x.pay(j, 5);
+            x.appeal(j, 0, 3);
+            x.appeal(j, 1, 3);
+        }
+        x.again();
+        for (int j = 0; j < 2; j++) {
+            due("paid", x.about(j, 5), 0);
+            due("days", x.about(j, 2), 11 + j);
+            due("sum", x.about(j, 3), 7);
+            due("DAYS are not appealed", x.appeal(j, 0, 3), 11 + j);
+            due("SUM is not appealed", x.appeal(j, 1, 3), 7);
+        }
+    }
+
     private static void p38_butSheets() {
         sentence(38, "AN IMAGE keeps all but SHEETS, numbers that wait, THE TAPE");
         DayFines x = new DayFines();
@@ -145,7 +175,14 @@ public final class BoundarySheetsTest {
         for (int i = 0; i < 95; i++) x.fact(1 + i % 11, 0, 0, i, 0);
         for (int i = 0; i < 30; i++) x.deed(3, i % 12, 0, 50);
         for (int p = 0; p < 12; p++) x.judge(p);
-        x.couple(0, 11);
+        x.couple(0, 1);
+        x.custody(1, 77);
+        x.pay(0, 30);
+        x.appeal(0, 0, 99);
+        x.appeal(0, 1, 99);
+        x.rule(11, 0);
+        for (int i = 0; i < 3; i++) x.step(0);
+        due("hours", x.about(0, 9), 1);
         due("full", x.person(0), FULL);
         due("back", x.again(), 0);
         int[] want = {1, 1, 0, 0, 0, 0, 0, 0, 0, 0};
@@ -160,7 +197,51 @@ public final class BoundarySheetsTest {
         due("a new judgment", x.judge(1), 0);
         int[] about = {1, 0, 4, 1, 4, 0, 4, 4, 0, 0, 1};
         for (int what = 0; what <= 10; what++) due("about " + what, x.about(0, what), about[what]);
-        due("not appealed", x.appeal(0, 0, 3), 4);
+        due("DAYS are not appealed", x.appeal(0, 0, 3), 4);
+        due("SUM is not appealed", x.appeal(0, 1, 3), 1);
+    }
+
+    private static DayFines keptFull() {
+        DayFines x = Boundary.full();
+        x.keep();
+        return x;
+    }
+
+    private static void p38_full() {
+        sentence(38, "AN IMAGE keeps all but SHEETS, numbers that wait, THE TAPE");
+        int[] want = {12, 96, 30, 16, 6, 1, 30, 120, 0, 0};
+        for (int what = 0; what < 10; what++) {
+            due("count " + what + " of a full court", Boundary.full().count(what), want[what]);
+            due("count " + what + " of its image", backFromFull().count(what), want[what]);
+        }
+        Supplier<DayFines> full = BoundarySheetsTest::keptFull;
+        Boundary.unchanged("at once", full, DayFines::again);
+        Boundary.unchanged("parted", full, x -> x.part(11) + x.part(0) + x.again());
+        Boundary.unchanged("the first and the last judgment", full, x -> x.pay(0, 1) + x.pay(15, 1) + x.again());
+        Boundary.unchanged("appealed", full, x -> x.appeal(0, 0, 1) + x.appeal(15, 1, 1) + x.again());
+        sentence(37, "AN IMAGE keeps all but SHEETS, numbers that wait, THE TAPE");
+        Boundary.unchanged("keep behind keep", full, DayFines::keep);
+        Supplier<DayFines> court = Boundary::full;
+        sentence(2, "PEOPLE, 12 at most");
+        Boundary.refused("person", court, x -> x.person(0), FULL);
+        sentence(6, "FACTS, 96 at most");
+        Boundary.refused("fact", court, x -> x.fact(0, 0, 0, 1, 0), FULL);
+        sentence(11, "DEEDS, 30 at most");
+        Boundary.refused("deed", court, x -> x.deed(0, 0, 0, 1), FULL);
+        sentence(15, "FULL: it would have more than 120.");
+        Boundary.refused("feed", court, x -> x.feed(0, 0, 0), FULL);
+        sentence(20, "A JUDGMENT (16 at most, numbered from 0)");
+        Boundary.refused("judge", court, x -> x.judge(11), FULL);
+        Boundary.refused("judge, no deed", court, x -> x.judge(3), NO);
+        sentence(31, "FULL: 30 wait.");
+        Boundary.refused("tell", court, x -> x.tell(0), FULL);
+    }
+
+    private static DayFines backFromFull() {
+        DayFines x = keptFull();
+        x.days(1);
+        x.again();
+        return x;
     }
 
     // ---- promise 39
@@ -371,6 +452,16 @@ public final class BoundarySheetsTest {
         DayFines x = Boundary.people(0, 0, 0);
         for (int p = 0; p < 3; p++) for (int i = 0; i < 10; i++) x.custody(p, 999);
         due("custody of all", x.count(9), 29970);
+        for (int d = 0; d < 3; d++) {
+            due("deeds in none", x.count(5), d);
+            x.deed(0, d, 0, 1);
+        }
+        Boundary.law(x, "days 1 sum 1 hours 1");
+        for (int d = 0; d < 3; d++) {
+            due("deeds in none", x.count(5), 3 - d);
+            x.judge(d);
+        }
+        due("deeds in none", x.count(5), 0);
     }
 
     public static void main(String[] args) {
@@ -378,8 +469,10 @@ public final class BoundarySheetsTest {
         p37_newer();
         p38_none();
         p38_all();
+        p38_everyRow();
         p38_butSheets();
         p38_fullAndBack();
+        p38_full();
         p39_places();
         p39_zeros();
         p40_places();

@@ -381,6 +381,27 @@ final class Boundary {
         return x;
     }
 
+    /** A court that is full: of people, couples, facts, deeds, judgments, bytes, numbers that wait and places. */
+    static DayFines full() {
+        DayFines x = court("days g sum i/30+1 hours u*4+1");
+        for (int i = 0; i < 12; i++) x.person(i % 4);
+        for (int i = 0; i < 12; i += 2) x.couple(i, i + 1);
+        for (int i = 0; i < 96; i++) x.fact(i % 12, i / 12 % 4, i / 48 * (i / 12 % 2 == 0 ? 1 : 0), 1 + i % 9, i % 7);
+        for (int i = 0; i < 15; i++) {
+            x.deed(i % 4, i % 12, 0, 1 + i);
+            x.judge(i % 12);
+        }
+        for (int i = 15; i < 29; i++) x.deed(i % 4, 3, 0, 1 + i);
+        x.judge(3);
+        x.deed(3, 11, 0, 100);
+        for (int s = 0; s < 2; s++) x.sheet(s, 24);
+        x.mark(0, 23, 7);
+        x.mark(1, 23, 8);
+        feed(x, "days g sum w/99+n hours" + " ".repeat(96) + "7");
+        for (int i = 0; i < 30; i++) x.tell(i);
+        return x;
+    }
+
     /** The rows of a person's level wait. */
     static void tellRows(DayFines x, int person) {
         int rows = 0;
