@@ -97,6 +97,10 @@ final class Boundary {
                 if (isListed && !refusalsSeen.contains(p + " " + refusal)) fail(refusal + " was never met");
             }
         }
+        finish();
+    }
+
+    static void finish() {
         System.out.println(told.size() + " sentences, " + asked + " answers, " + wrong + " not as due");
         if (wrong != 0) System.exit(1);
     }
